@@ -1,9 +1,28 @@
+import java.util.function.Consumer;
+
 /** Compares answers with those that are due, and counts the wrong ones. */
 final class Check {
     private static int wrong = 0;
     private static int looked = 0;
+    private static String sentence = "";
 
     private Check() {
+    }
+
+    /** Runs the test of one sentence of the document; its complaints bear the sentence. */
+    static void sentence(String text, Runnable test) {
+        sentence = text + ": ";
+        int before = looked;
+        try {
+            test.run();
+        } catch (Throwable thrown) {
+            // One broken sentence must not hide what the tests behind it have to say.
+            complain("stopped by " + thrown);
+        }
+        if (looked == before) {
+            complain("nothing was looked at");
+        }
+        sentence = "";
     }
 
     static void equal(String call, long got, long due) {
@@ -20,6 +39,13 @@ final class Check {
         }
     }
 
+    static void equal(String calls, String got, String due) {
+        looked++;
+        if (!got.equals(due)) {
+            complain(calls + " answered " + got + ", due is " + due);
+        }
+    }
+
     static void isTrue(String what, boolean holds) {
         looked++;
         if (!holds) {
@@ -28,7 +54,7 @@ final class Check {
     }
 
     /** The call throws exactly this exception, and changes nothing of the object. */
-    static void refuses(String call, NestedFrames frames, Class<?> due, Runnable run) {
+    static void refuses(String call, CountedFrames frames, Class<?> due, Runnable run) {
         looked++;
         String before = stateOf(frames);
         Class<?> got = null;
@@ -45,23 +71,23 @@ final class Check {
         }
     }
 
-    /** All that can be told of an object's state, as a text. */
-    static String stateOf(NestedFrames frames) {
+    /** The call answers without a change of the object. */
+    static void unchanged(String call, CountedFrames frames, Consumer<CountedFrames> run) {
+        looked++;
+        String before = stateOf(frames);
+        run.accept(frames);
+        if (!before.equals(stateOf(frames))) {
+            complain(call + " changed something");
+        }
+    }
+
+    /** What tells two states apart, in few calls: the digest goes over all that told() and the frames tell. */
+    private static String stateOf(CountedFrames frames) {
         StringBuilder state = new StringBuilder();
         for (int what = 0; what <= 8; what++) {
             state.append(frames.count(what)).append(' ');
         }
-        for (int number = 0; number < frames.count(1); number++) {
-            state.append("| ");
-            for (int what = 0; what <= 8; what++) {
-                state.append(frames.told(number, what)).append(' ');
-            }
-            state.append("way ");
-            for (int step = 0; step <= frames.count(3); step++) {
-                state.append(frames.way(number, step)).append(' ');
-            }
-        }
-        return state.append("= ").append(frames.digest()).append(' ').append(frames.mean()).toString();
+        return state.append(frames.digest()).append(' ').append(frames.mean()).toString();
     }
 
     static void end(String test) {
@@ -74,7 +100,7 @@ final class Check {
     private static void complain(String text) {
         wrong++;
         if (wrong <= 50) {
-            System.out.println(text);
+            System.out.println(sentence + text);
         }
     }
 }

@@ -1,5 +1,3 @@
-import java.util.function.Consumer;
-
 /** Each promise by cases whose answers were worked out by hand from the document. */
 public final class PromisesTest {
     private static final Class<?> ARGUMENT = IllegalArgumentException.class;
@@ -15,7 +13,7 @@ public final class PromisesTest {
     };
 
     private interface RectangleCall {
-        int of(NestedFrames frames, int x1, int y1, int x2, int y2);
+        int of(CountedFrames frames, int x1, int y1, int x2, int y2);
     }
 
     private PromisesTest() {
@@ -44,8 +42,8 @@ public final class PromisesTest {
     }
 
     /** Allotments of one square each, at these x and y = 0. */
-    private static NestedFrames inARow(int... places) {
-        NestedFrames frames = new NestedFrames();
+    private static CountedFrames inARow(int... places) {
+        CountedFrames frames = new CountedFrames();
         for (int x : places) {
             frames.come(x, 0, x, 0);
         }
@@ -56,36 +54,36 @@ public final class PromisesTest {
      * Two frames of frames: {0 10 20}, {30 40 50}, {60 70 80} in the first one, {90 95 96}, {97 98} in the
      * second one; their numbers are 0 to 13 in this order.
      */
-    private static NestedFrames threeLevels() {
+    private static CountedFrames threeLevels() {
         return inARow(0, 10, 20, 30, 40, 50, 60, 70, 80, 90, 95, 96, 97, 98);
     }
 
-    private static void goAll(NestedFrames frames, int first, int last) {
+    private static void goAll(CountedFrames frames, int first, int last) {
         for (int number = first; number <= last; number++) {
             frames.go(number);
         }
     }
 
-    private static void tells(String title, NestedFrames frames, int what, int... due) {
+    private static void tells(String title, CountedFrames frames, int what, int... due) {
         for (int number = 0; number < due.length; number++) {
             Check.equal(title + ": told(" + number + ", " + what + ")", frames.told(number, what), due[number]);
         }
     }
 
-    private static void ways(String title, NestedFrames frames, int step, int... due) {
+    private static void ways(String title, CountedFrames frames, int step, int... due) {
         for (int number = 0; number < due.length; number++) {
             Check.equal(title + ": way(" + number + ", " + step + ")", frames.way(number, step), due[number]);
         }
     }
 
-    private static void counts(String title, NestedFrames frames, int... due) {
+    private static void counts(String title, CountedFrames frames, int... due) {
         for (int what = 0; what < due.length; what++) {
             Check.equal(title + ": count(" + what + ")", frames.count(what), due[what]);
         }
     }
 
     private static void refusesWrongRectangles(String name, RectangleCall call) {
-        for (NestedFrames frames : new NestedFrames[] {new NestedFrames(), threeLevels()}) {
+        for (CountedFrames frames : new CountedFrames[] {new CountedFrames(), threeLevels()}) {
             for (int[] r : WRONG_RECTANGLES) {
                 String text = name + "(" + r[0] + ", " + r[1] + ", " + r[2] + ", " + r[3] + ")";
                 Check.refuses(text, frames, ARGUMENT, () -> call.of(frames, r[0], r[1], r[2], r[3]));
@@ -93,26 +91,20 @@ public final class PromisesTest {
         }
     }
 
-    private static void unchanged(String name, NestedFrames frames, Consumer<NestedFrames> call) {
-        String before = Check.stateOf(frames);
-        call.accept(frames);
-        Check.isTrue(name + " changed something", before.equals(Check.stateOf(frames)));
-    }
-
     private static void newObject() {
-        NestedFrames frames = new NestedFrames();
+        CountedFrames frames = new CountedFrames();
         counts("new", frames, 0, 0, 1, 0, 0, 0, 0, 0, 0);
         Check.equal("new: mean()", frames.mean(), 0.0);
         Check.equal("new: nearest", frames.nearest(0, 0), -1);
         Check.equal("new: looks", frames.looks(0, 0, 99, 99), 1);
-        NestedFrames other = new NestedFrames();
+        CountedFrames other = new CountedFrames();
         other.come(1, 1, 2, 2);
         counts("new, beside another one", frames, 0, 0, 1, 0, 0, 0, 0, 0, 0);
     }
 
     private static void comeNumbersAndLimits() {
-        refusesWrongRectangles("come", NestedFrames::come);
-        NestedFrames frames = new NestedFrames();
+        refusesWrongRectangles("come", CountedFrames::come);
+        CountedFrames frames = new CountedFrames();
         Check.equal("come of all", frames.come(0, 0, 99, 99), 0);
         Check.equal("come at the least edges", frames.come(0, 0, 0, 0), 1);
         Check.equal("come at the greatest edges", frames.come(99, 99, 99, 99), 2);
@@ -130,22 +122,22 @@ public final class PromisesTest {
     }
 
     private static void comeChoosesFrames() {
-        NestedFrames least = inARow(0, 10, 20, 80, 90);
+        CountedFrames least = inARow(0, 10, 20, 80, 90);
         least.come(26, 0, 26, 0);
         least.come(60, 0, 60, 0);
         ways("least growth", least, 0, 0, 0, 0, 1, 1, 0, 1);
         tells("held as the last one", least, 5, 0, 1, 2, 0, 1, 3, 2);
 
-        NestedFrames smaller = inARow(0, 10, 20, 30, 40);
+        CountedFrames smaller = inARow(0, 10, 20, 30, 40);
         smaller.come(25, 0, 25, 0);
         ways("smallest hedge of equal growth", smaller, 0, 0, 0, 0, 1, 1, 1);
 
-        NestedFrames first = inARow(0, 10, 20, 30, 50);
+        CountedFrames first = inARow(0, 10, 20, 30, 50);
         first.come(25, 0, 25, 0);
         ways("first one of equal growth and hedge", first, 0, 0, 0, 0, 1, 1, 0);
 
         // The hedges are 0..29 x 0..9 and 50..59 x 0..89: the nearer one would grow by fewer columns, yet more squares.
-        NestedFrames squares = new NestedFrames();
+        CountedFrames squares = new CountedFrames();
         squares.come(0, 0, 9, 9);
         squares.come(10, 0, 19, 9);
         squares.come(20, 0, 29, 9);
@@ -156,12 +148,12 @@ public final class PromisesTest {
     }
 
     private static void comeSplitsFrames() {
-        NestedFrames alongX = inARow(40, 0, 30, 10, 20);
+        CountedFrames alongX = inARow(40, 0, 30, 10, 20);
         ways("split along x", alongX, 0, 1, 0, 1, 0, 0);
         tells("split along x", alongX, 5, 1, 0, 0, 1, 2);
         counts("split along x", alongX, 5, 5, 3, 1, 41 + 21 + 11, 41, 0, 1, 2);
 
-        NestedFrames alongY = new NestedFrames();
+        CountedFrames alongY = new CountedFrames();
         int[][] places = {{0, 40}, {39, 0}, {10, 30}, {20, 10}, {30, 20}};
         for (int[] place : places) {
             alongY.come(place[0], place[1], 99, 99);
@@ -169,27 +161,27 @@ public final class PromisesTest {
         ways("split along y", alongY, 0, 1, 0, 1, 0, 0);
         tells("split along y", alongY, 5, 1, 0, 0, 1, 2);
 
-        NestedFrames equalSpreads = new NestedFrames();
+        CountedFrames equalSpreads = new CountedFrames();
         for (int k = 0; k < 5; k++) {
             equalSpreads.come(10 * k, 40 - 10 * k, 10 * k, 40 - 10 * k);
         }
         ways("equal spreads are split along x", equalSpreads, 0, 0, 0, 0, 1, 1);
 
-        NestedFrames equalEdges = new NestedFrames();
+        CountedFrames equalEdges = new CountedFrames();
         for (int k = 0; k < 5; k++) {
             equalEdges.come(5 - 5 * (k % 2), 0, 50 - 10 * k, 3);
         }
         ways("equals keep their order", equalEdges, 0, 0, 0, 1, 0, 1);
         tells("equals keep their order", equalEdges, 5, 2, 0, 0, 1, 1);
 
-        NestedFrames behind = inARow(0, 10, 20, 80, 90, 5, 15);
+        CountedFrames behind = inARow(0, 10, 20, 80, 90, 5, 15);
         ways("the new frame stands directly behind", behind, 0, 0, 0, 1, 2, 2, 0, 1);
         tells("the new frame stands directly behind", behind, 5, 0, 2, 1, 0, 1, 1, 0);
         counts("the new frame stands directly behind", behind, 7, 7, 4, 1, 91 + 11 + 6 + 11, 91, 0, 2, 3);
     }
 
     private static void comeSplitsUpwards() {
-        NestedFrames frames = threeLevels();
+        CountedFrames frames = threeLevels();
         counts("split upwards", frames, 14, 14, 8, 2, 99 + 81 + 9 + 3 * 21 + 7 + 2, 99, 0, 5, 2);
         ways("split upwards", frames, 0, 0, 0, 0, 0, 0, 0, 0, 0, 0, 1, 1, 1, 1, 1);
         ways("split upwards", frames, 1, 0, 0, 0, 1, 1, 1, 2, 2, 2, 0, 0, 0, 1, 1);
@@ -198,7 +190,7 @@ public final class PromisesTest {
     }
 
     private static void goGivesUp() {
-        NestedFrames frames = new NestedFrames();
+        CountedFrames frames = new CountedFrames();
         frames.come(0, 0, 9, 4);
         frames.come(10, 10, 10, 10);
         frames.come(50, 50, 59, 69);
@@ -217,7 +209,7 @@ public final class PromisesTest {
     }
 
     private static void goDropsFrames() {
-        NestedFrames frames = threeLevels();
+        CountedFrames frames = threeLevels();
         goAll(frames, 0, 2);
         ways("an empty frame goes", frames, 1, -1, -1, -1, 0, 0, 0, 1, 1, 1, 0, 0, 0, 1, 1);
         counts("an empty frame goes", frames, 11, 14, 7, 2, 69 + 51 + 9 + 21 + 21 + 7 + 2, 69, 0, 5, 2);
@@ -227,31 +219,31 @@ public final class PromisesTest {
         counts("down to one frame", frames, 3, 14, 1, 0, 21, 21, 0, 5, 3);
         ways("down to one frame", frames, 0, -1, -1, -1, -1, -1, -1);
 
-        NestedFrames deep = threeLevels();
+        CountedFrames deep = threeLevels();
         goAll(deep, 0, 5);
         goAll(deep, 9, 11);
         counts("frames below may hold one", deep, 5, 14, 5, 2, 39 + 21 + 2 + 21 + 2, 39, 0, 5, 2);
         goAll(deep, 12, 13);
         counts("two levels go at once", deep, 3, 14, 1, 0, 21, 21, 0, 5, 3);
 
-        NestedFrames one = threeLevels();
+        CountedFrames one = threeLevels();
         goAll(one, 1, 13);
         counts("one that is left alone", one, 1, 14, 1, 0, 1, 1, 0, 5, 1);
     }
 
     private static void goRefuses() {
-        NestedFrames frames = threeLevels();
+        CountedFrames frames = threeLevels();
         frames.go(4);
         for (int number : new int[] {-1, 14, 59, 60, 61, Integer.MIN_VALUE, Integer.MAX_VALUE}) {
             Check.refuses("go(" + number + ")", frames, INDEX, () -> frames.go(number));
         }
         Check.refuses("go again", frames, STATE, () -> frames.go(4));
-        NestedFrames empty = new NestedFrames();
+        CountedFrames empty = new CountedFrames();
         Check.refuses("go, new", empty, INDEX, () -> empty.go(0));
     }
 
     private static void told() {
-        NestedFrames frames = new NestedFrames();
+        CountedFrames frames = new CountedFrames();
         frames.come(0, 1, 9, 12);
         frames.come(9, 12, 20, 30);
         frames.come(10, 0, 12, 11);
@@ -277,10 +269,10 @@ public final class PromisesTest {
         for (int number : new int[] {-1, 4, 60, Integer.MIN_VALUE, Integer.MAX_VALUE}) {
             Check.refuses("told(" + number + ", 0)", frames, INDEX, () -> frames.told(number, 0));
         }
-        unchanged("told", frames, f -> f.told(3, 8));
+        Check.unchanged("told", frames, f -> f.told(3, 8));
     }
 
-    private static void toldAll(String title, NestedFrames frames, int[][] due) {
+    private static void toldAll(String title, CountedFrames frames, int[][] due) {
         for (int number = 0; number < due.length; number++) {
             for (int what = 0; what <= 8; what++) {
                 Check.equal(title + "(" + number + ", " + what + ")", frames.told(number, what), due[number][what]);
@@ -289,7 +281,7 @@ public final class PromisesTest {
     }
 
     private static void way() {
-        NestedFrames frames = threeLevels();
+        CountedFrames frames = threeLevels();
         Check.equal("way(6, 0)", frames.way(6, 0), 0);
         Check.equal("way(6, 1)", frames.way(6, 1), 2);
         Check.equal("way(6, 2)", frames.way(6, 2), -1);
@@ -303,13 +295,13 @@ public final class PromisesTest {
         for (int number : new int[] {-1, 14, 60, Integer.MIN_VALUE, Integer.MAX_VALUE}) {
             Check.refuses("way(" + number + ", 0)", frames, INDEX, () -> frames.way(number, 0));
         }
-        unchanged("way", frames, f -> f.way(7, 1));
+        Check.unchanged("way", frames, f -> f.way(7, 1));
         Check.equal("way without steps", inARow(3).way(0, 0), -1);
     }
 
     private static void overlaps() {
-        refusesWrongRectangles("overlaps", NestedFrames::overlaps);
-        NestedFrames frames = new NestedFrames();
+        refusesWrongRectangles("overlaps", CountedFrames::overlaps);
+        CountedFrames frames = new CountedFrames();
         Check.equal("none to overlap", frames.overlaps(0, 0, 99, 99), 0);
         frames.come(10, 10, 19, 19);
         Check.equal("at the corner 10 10", frames.overlaps(0, 0, 10, 10), 1);
@@ -320,16 +312,16 @@ public final class PromisesTest {
         Check.equal("beside it, more y", frames.overlaps(0, 20, 99, 99), 0);
         Check.equal("within it", frames.overlaps(12, 12, 12, 12), 1);
         Check.equal("across it", frames.overlaps(0, 15, 99, 15), 1);
-        NestedFrames row = threeLevels();
+        CountedFrames row = threeLevels();
         Check.equal("some of a row", row.overlaps(20, 0, 70, 50), 6);
         row.go(3);
         Check.equal("not those given up", row.overlaps(20, 0, 70, 50), 5);
-        unchanged("overlaps", row, f -> f.overlaps(0, 0, 99, 99));
+        Check.unchanged("overlaps", row, f -> f.overlaps(0, 0, 99, 99));
     }
 
     private static void looks() {
-        refusesWrongRectangles("looks", NestedFrames::looks);
-        NestedFrames frames = threeLevels();
+        refusesWrongRectangles("looks", CountedFrames::looks);
+        CountedFrames frames = threeLevels();
         Check.equal("all frames", frames.looks(0, 0, 99, 99), 8);
         Check.equal("the one that holds all, apart from it", frames.looks(0, 1, 99, 99), 1);
         Check.equal("between two frames with allotments", frames.looks(25, 0, 25, 0), 2);
@@ -338,11 +330,11 @@ public final class PromisesTest {
         Check.equal("of both frames", frames.looks(80, 0, 90, 0), 5);
         goAll(frames, 0, 2);
         Check.equal("all frames that are left", frames.looks(0, 0, 99, 99), 7);
-        unchanged("looks", frames, f -> f.looks(0, 0, 99, 99));
+        Check.unchanged("looks", frames, f -> f.looks(0, 0, 99, 99));
     }
 
     private static void nearest() {
-        NestedFrames frames = new NestedFrames();
+        CountedFrames frames = new CountedFrames();
         for (int wrong : new int[] {-1, 100, Integer.MIN_VALUE, Integer.MAX_VALUE}) {
             Check.refuses("nearest(" + wrong + ", 0)", frames, ARGUMENT, () -> frames.nearest(wrong, 0));
             Check.refuses("nearest(0, " + wrong + ")", frames, ARGUMENT, () -> frames.nearest(0, wrong));
@@ -362,9 +354,9 @@ public final class PromisesTest {
         Check.equal("at the far corner", frames.nearest(99, 99), 1);
         Check.equal("at the corner 99 0", frames.nearest(99, 0), 1);
         Check.equal("at the corner 0 99", frames.nearest(0, 99), 2);
-        unchanged("nearest", frames, f -> f.nearest(0, 0));
+        Check.unchanged("nearest", frames, f -> f.nearest(0, 0));
 
-        NestedFrames equals = new NestedFrames();
+        CountedFrames equals = new CountedFrames();
         equals.come(0, 0, 0, 0);
         equals.come(3, 4, 3, 4);
         equals.come(8, 4, 9, 9);
@@ -376,14 +368,14 @@ public final class PromisesTest {
     }
 
     private static void count() {
-        NestedFrames frames = threeLevels();
+        CountedFrames frames = threeLevels();
         for (int what : new int[] {-1, 9, Integer.MIN_VALUE, Integer.MAX_VALUE}) {
             Check.refuses("count(" + what + ")", frames, INDEX, () -> frames.count(what));
         }
-        unchanged("count", frames, f -> f.count(4));
+        Check.unchanged("count", frames, f -> f.count(4));
 
         // Sorted by x1 these are 0 1 2 | 3 4: the hedges 0..30 x 0..9 and 30..50 x 0..9 have a column in common.
-        NestedFrames pairs = new NestedFrames();
+        CountedFrames pairs = new CountedFrames();
         pairs.come(0, 0, 5, 9);
         pairs.come(10, 0, 15, 9);
         pairs.come(20, 0, 30, 9);
@@ -394,7 +386,7 @@ public final class PromisesTest {
         counts("hedges that overlap no more", pairs, 4, 5, 3, 1, 510 + 160 + 210, 510, 0, 1, 2);
 
         // All reach to 99, so that all three hedges overlap, those of the first and the last frame too.
-        NestedFrames three = new NestedFrames();
+        CountedFrames three = new CountedFrames();
         for (int x : new int[] {0, 10, 20, 30, 40, 50, 60, 70}) {
             three.come(x, 0, 99, 0);
         }
@@ -403,15 +395,15 @@ public final class PromisesTest {
     }
 
     private static void grows() {
-        refusesWrongRectangles("grows", NestedFrames::grows);
-        NestedFrames frames = new NestedFrames();
+        refusesWrongRectangles("grows", CountedFrames::grows);
+        CountedFrames frames = new CountedFrames();
         Check.equal("grows of one that holds nothing", frames.grows(5, 5, 6, 9), 10);
         Check.equal("grows of one that holds nothing, all", frames.grows(0, 0, 99, 99), 10000);
         frames.come(10, 10, 19, 19);
         Check.equal("grows by nothing", frames.grows(12, 12, 19, 19), 0);
         Check.equal("grows towards less", frames.grows(9, 8, 9, 8), 11 * 12 - 100);
         Check.equal("grows towards more", frames.grows(20, 21, 20, 21), 11 * 12 - 100);
-        NestedFrames deep = threeLevels();
+        CountedFrames deep = threeLevels();
         Check.equal("grows on all the way", deep.grows(99, 0, 99, 0), 3);
         Check.equal("grows below alone", deep.grows(25, 0, 25, 0), 5);
         Check.equal("grows in the middle too", deep.grows(88, 0, 88, 0), 4);
@@ -420,24 +412,24 @@ public final class PromisesTest {
         Check.equal("grows after go", deep.grows(99, 0, 99, 0), 6);
         goAll(frames, 0, 0);
         Check.equal("grows after all went", frames.grows(12, 12, 12, 12), 1);
-        unchanged("grows", deep, f -> f.grows(0, 0, 99, 99));
+        Check.unchanged("grows", deep, f -> f.grows(0, 0, 99, 99));
     }
 
     private static void splits() {
-        refusesWrongRectangles("splits", NestedFrames::splits);
-        NestedFrames frames = inARow(0, 10, 20);
+        refusesWrongRectangles("splits", CountedFrames::splits);
+        CountedFrames frames = inARow(0, 10, 20);
         Check.equal("splits of 3", frames.splits(0, 0, 0, 0), 0);
         frames.come(30, 0, 30, 0);
         Check.equal("splits of 4", frames.splits(0, 0, 0, 0), 1);
-        NestedFrames deep = inARow(0, 10, 20, 30, 40, 50, 60, 70, 80, 90, 95, 96, 97);
+        CountedFrames deep = inARow(0, 10, 20, 30, 40, 50, 60, 70, 80, 90, 95, 96, 97);
         Check.equal("splits upwards", deep.splits(98, 0, 98, 0), 2);
         Check.equal("splits, where there is room", deep.splits(0, 0, 0, 0), 0);
         int before = deep.count(7);
-        unchanged("splits", deep, f -> f.splits(98, 0, 98, 0));
+        Check.unchanged("splits", deep, f -> f.splits(98, 0, 98, 0));
         deep.come(98, 0, 98, 0);
         Check.equal("splits as told", deep.count(7) - before, 2);
 
-        NestedFrames full = new NestedFrames();
+        CountedFrames full = new CountedFrames();
         for (int number = 0; number < 56; number++) {
             full.come(number, 0, number, 0);
             full.go(number);
@@ -450,7 +442,7 @@ public final class PromisesTest {
     }
 
     private static void mean() {
-        NestedFrames frames = new NestedFrames();
+        CountedFrames frames = new CountedFrames();
         Check.equal("mean of none", frames.mean(), 0.0);
         frames.come(0, 0, 0, 0);
         Check.equal("mean of one", frames.mean(), 1.0);
@@ -462,12 +454,12 @@ public final class PromisesTest {
         frames.go(1);
         frames.go(2);
         Check.equal("mean, if all went", frames.mean(), 0.0);
-        NestedFrames large = new NestedFrames();
+        CountedFrames large = new CountedFrames();
         for (int number = 0; number < 60; number++) {
             large.come(0, 0, 99, 99);
         }
         Check.equal("mean of the largest", large.mean(), 10000.0);
-        unchanged("mean", large, f -> f.mean());
+        Check.unchanged("mean", large, f -> f.mean());
     }
 
     private static long folded(int... numbers) {
@@ -479,7 +471,7 @@ public final class PromisesTest {
     }
 
     private static void digest() {
-        NestedFrames frames = new NestedFrames();
+        CountedFrames frames = new CountedFrames();
         Check.equal("digest, new", frames.digest(), folded(0, 0, 1, 0, 0, 0, 0, 0, 0, 0, 0, 0, 0, 0));
         frames.come(3, 4, 5, 7);
         frames.come(3, 8, 3, 8);
@@ -495,7 +487,7 @@ public final class PromisesTest {
             3, 4, 5, 7, 12, -1, -1, -1, 0,
             3, 8, 3, 8, 1, -1, -1, -1, 0,
             0, 0, 0, 0, 0));
-        NestedFrames two = inARow(40, 0, 30, 10, 20);
+        CountedFrames two = inARow(40, 0, 30, 10, 20);
         Check.equal("digest of nested frames", two.digest(), folded(
             5, 5, 3, 1, 73, 41, 0, 1, 2,
             40, 0, 40, 0, 1, 1, 2, 11, 0,
@@ -506,6 +498,6 @@ public final class PromisesTest {
             2, 0, 0, 40, 0,
             3, 0, 0, 20, 0, 1, 3, 4,
             2, 30, 0, 40, 0, 2, 0));
-        unchanged("digest", two, f -> f.digest());
+        Check.unchanged("digest", two, f -> f.digest());
     }
 }

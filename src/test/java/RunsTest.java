@@ -1,12 +1,14 @@
 import java.util.Random;
 
-/** Long runs of calls: NestedFrames answers each one as SlowFrames does. The seeds are fixed. */
+/** Runs of all 512 calls: NestedFrames answers each one as SlowFrames does. The seeds are fixed. */
 public final class RunsTest {
     private static final int RUNS = 400;
-    private static final int CALLS = 512;
+    private static final int CALLS = CountedFrames.MOST_CALLS;
+    // A change and the digest behind it.
+    private static final int CALLS_OF_A_STEP = 2;
 
     private final Random random;
-    private final NestedFrames frames = new NestedFrames();
+    private final CountedFrames frames = new CountedFrames();
     private final SlowFrames slow = new SlowFrames();
     private final int run;
     private final int style;
@@ -39,15 +41,16 @@ public final class RunsTest {
     private void go() {
         // The first calls build, for the later ones have to find something to ask for.
         int building = 40 + random.nextInt(100);
-        for (int call = 0; call < CALLS; call++) {
-            if (call < building || random.nextInt(4) == 0) {
+        for (int step = 0; frames.calls() + CALLS_OF_A_STEP < CALLS; step++) {
+            if (step < building || random.nextInt(4) == 0) {
                 change();
             } else {
                 ask();
             }
         }
-        compare("digest()", frames::digest, slow::digest);
-        deepest = Math.max(deepest, frames.count(3));
+        while (frames.calls() < CALLS) {
+            compare("digest()", frames::digest, slow::digest);
+        }
     }
 
     private void change() {
@@ -57,9 +60,9 @@ public final class RunsTest {
         } else {
             int[] r = rectangle();
             compare(text("come", r), () -> frames.come(r[0], r[1], r[2], r[3]), () -> slow.come(r[0], r[1], r[2], r[3]));
-            came = frames.count(1);
+            came = slow.count(1);
         }
-        deepest = Math.max(deepest, frames.count(3));
+        deepest = Math.max(deepest, slow.count(3));
         if (random.nextInt(8) == 0) {
             compare("digest()", frames::digest, slow::digest);
         }
