@@ -88,6 +88,7 @@ public final class EdgesTest {
         Check.sentence("10: (nothing is changed)", EdgesTest::growsChangesNothing);
         rectangleSentences("11 splits", CountedFrames::splits);
         Check.sentence("11: how many frames would be split", EdgesTest::splitsOfFullFrames);
+        Check.sentence("11: if such an allotment came now", EdgesTest::splitsForAllOfIt);
         Check.sentence("11: however many there are", EdgesTest::splitsAfter60);
         Check.sentence("11: nothing is changed", EdgesTest::splitsChangesNothing);
     }
@@ -466,6 +467,15 @@ public final class EdgesTest {
         Check.equal("45 and 49", CountedFrames.of(square(7, 0), square(3, 6)).nearest(0, 0), 1);
         Check.equal("the greater side less, all more", CountedFrames.of(square(6, 6), square(0, 8)).nearest(0, 0), 1);
         Check.equal("across all", CountedFrames.of(square(99, 99)).nearest(0, 0), 0);
+        // Straight above it, or one step aside of that; straight beside it, or one step above that.
+        Check.equal("0 and 5, 1 and 5", CountedFrames.of(square(51, 55), square(50, 55)).nearest(50, 50), 1);
+        Check.equal("5 and 0, 5 and 1", CountedFrames.of(square(55, 51), square(55, 50)).nearest(50, 50), 1);
+        Check.equal("0 and 0, 1 and 0", CountedFrames.of(square(51, 50), square(50, 50)).nearest(50, 50), 1);
+        Check.equal("0 and 0, 0 and 1", CountedFrames.of(square(50, 51), square(50, 50)).nearest(50, 50), 1);
+        // The same with a nearest square in the middle of many.
+        Check.equal("0 and 5 of a line", CountedFrames.of(square(51, 55), new int[] {47, 55, 53, 55}).nearest(50, 50), 1);
+        Check.equal("5 and 0 of a column", CountedFrames.of(square(55, 51), new int[] {55, 47, 55, 53}).nearest(50, 50), 1);
+        Check.equal("within many", CountedFrames.of(square(51, 50), new int[] {47, 47, 53, 53}).nearest(50, 50), 1);
         // One step: 99 along both sides, or 98 along one of them.
         CountedFrames far = CountedFrames.of(square(99, 99), square(98, 99));
         Check.equal("one step less far", far.nearest(0, 0), 1);
@@ -787,6 +797,18 @@ public final class EdgesTest {
         Check.equal("at a full one, with room above it", room.splits(60, 0, 60, 0), 1);
     }
 
+    private static void splitsForAllOfIt() {
+        // The hedges 0..20, which holds four, and 40..60, which has room: along x, and the same along y.
+        int[][] due = {{20, 39, 1}, {30, 45, 0}, {16, 50, 0}, {20, 40, 1}, {20, 41, 0}, {0, 60, 1}, {40, 40, 0}};
+        CountedFrames alongX = CountedFrames.row(0, 10, 20, 40, 60, 15);
+        CountedFrames alongY = CountedFrames.of(
+            square(0, 0), square(0, 10), square(0, 20), square(0, 40), square(0, 60), square(0, 15));
+        for (int[] d : due) {
+            Check.equal("x " + d[0] + " to " + d[1], alongX.splits(d[0], 0, d[1], 0), d[2]);
+            Check.equal("y " + d[0] + " to " + d[1], alongY.splits(0, d[0], 0, d[1]), d[2]);
+        }
+    }
+
     private static void splitsAfter60() {
         // One frame, as all but the last few were given up ahead of them.
         CountedFrames frames = new CountedFrames();
@@ -848,16 +870,8 @@ public final class EdgesTest {
         Check.equal("none is held", frames.mean(), 0.0);
     }
 
-    private static long folded(int... numbers) {
-        long d = 1303;
-        for (int x : numbers) {
-            d = d * 31 + x;
-        }
-        return d;
-    }
-
     private static void digestOfNew() {
-        Check.equal("of a new one", new CountedFrames().digest(), folded(0, 0, 1, 0, 0, 0, 0, 0, 0, 0, 0, 0, 0, 0));
+        Check.equal("of a new one", new CountedFrames().digest(), Check.folded(0, 0, 1, 0, 0, 0, 0, 0, 0, 0, 0, 0, 0, 0));
     }
 
     private static void digestWraps() {
@@ -874,7 +888,7 @@ public final class EdgesTest {
     private static void digestOfAllThatCame() {
         CountedFrames frames = CountedFrames.of(new int[] {3, 4, 5, 7}, square(3, 4));
         frames.go(0);
-        Check.equal("one of two was given up", frames.digest(), folded(
+        Check.equal("one of two was given up", frames.digest(), Check.folded(
             1, 2, 1, 0, 1, 1, 0, 0, 1,
             3, 4, 5, 7, 12, -1, -1, -1, 1,
             3, 4, 3, 4, 1, 0, 1, 1, 0,
@@ -883,7 +897,7 @@ public final class EdgesTest {
 
     private static void digestOfFrames() {
         CountedFrames two = CountedFrames.row(40, 0, 30, 10, 20);
-        Check.equal("two frames", two.digest(), folded(
+        Check.equal("two frames", two.digest(), Check.folded(
             5, 5, 3, 1, 73, 41, 0, 1, 2,
             40, 0, 40, 0, 1, 1, 2, 11, 0,
             0, 0, 0, 0, 1, 0, 3, 21, 0,
@@ -897,7 +911,7 @@ public final class EdgesTest {
         CountedFrames three = CountedFrames.longRow(14, 5);
         three.goAll(0, 4);
         three.goAll(6, 7);
-        Check.equal("frames of frames", three.digest(), folded(
+        Check.equal("frames of frames", three.digest(), Check.folded(
             7, 14, 7, 2, 41 + 16 + 21 + 1 + 1 + 11 + 6, 41, 0, 5, 2,
             0, 0, 0, 0, 1, -1, -1, -1, 0,
             5, 0, 5, 0, 1, -1, -1, -1, 0,
@@ -925,12 +939,12 @@ public final class EdgesTest {
     private static void digestWithoutHedge() {
         CountedFrames frames = CountedFrames.of(new int[] {50, 60, 51, 61});
         frames.go(0);
-        Check.equal("after the only one went", frames.digest(), folded(
+        Check.equal("after the only one went", frames.digest(), Check.folded(
             0, 1, 1, 0, 0, 0, 0, 0, 0,
             50, 60, 51, 61, 4, -1, -1, -1, 0,
             0, 0, 0, 0, 0));
         // A hedge of one square at 0 0 has the same edges, yet one is held.
-        Check.equal("with a square at 0 0", CountedFrames.of(square(0, 0)).digest(), folded(
+        Check.equal("with a square at 0 0", CountedFrames.of(square(0, 0)).digest(), Check.folded(
             1, 1, 1, 0, 1, 1, 0, 0, 1,
             0, 0, 0, 0, 1, 0, 1, 1, 0,
             1, 0, 0, 0, 0, 0));

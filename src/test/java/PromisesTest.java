@@ -41,27 +41,12 @@ public final class PromisesTest {
         Check.end("PromisesTest");
     }
 
-    /** Allotments of one square each, at these x and y = 0. */
-    private static CountedFrames inARow(int... places) {
-        CountedFrames frames = new CountedFrames();
-        for (int x : places) {
-            frames.come(x, 0, x, 0);
-        }
-        return frames;
-    }
-
     /**
      * Two frames of frames: {0 10 20}, {30 40 50}, {60 70 80} in the first one, {90 95 96}, {97 98} in the
      * second one; their numbers are 0 to 13 in this order.
      */
     private static CountedFrames threeLevels() {
-        return inARow(0, 10, 20, 30, 40, 50, 60, 70, 80, 90, 95, 96, 97, 98);
-    }
-
-    private static void goAll(CountedFrames frames, int first, int last) {
-        for (int number = first; number <= last; number++) {
-            frames.go(number);
-        }
+        return CountedFrames.row(0, 10, 20, 30, 40, 50, 60, 70, 80, 90, 95, 96, 97, 98);
     }
 
     private static void tells(String title, CountedFrames frames, int what, int... due) {
@@ -114,7 +99,7 @@ public final class PromisesTest {
         }
         Check.refuses("come, if there were 60", frames, STATE, () -> frames.come(0, 0, 0, 0));
         Check.refuses("wrong come, if there were 60", frames, ARGUMENT, () -> frames.come(0, 0, 100, 0));
-        goAll(frames, 2, 59);
+        frames.goAll(2, 59);
         frames.go(0);
         Check.equal("none held", frames.count(0), 0);
         Check.refuses("come, if there were 60 that all went", frames, STATE, () -> frames.come(0, 0, 0, 0));
@@ -122,17 +107,17 @@ public final class PromisesTest {
     }
 
     private static void comeChoosesFrames() {
-        CountedFrames least = inARow(0, 10, 20, 80, 90);
+        CountedFrames least = CountedFrames.row(0, 10, 20, 80, 90);
         least.come(26, 0, 26, 0);
         least.come(60, 0, 60, 0);
         ways("least growth", least, 0, 0, 0, 0, 1, 1, 0, 1);
         tells("held as the last one", least, 5, 0, 1, 2, 0, 1, 3, 2);
 
-        CountedFrames smaller = inARow(0, 10, 20, 30, 40);
+        CountedFrames smaller = CountedFrames.row(0, 10, 20, 30, 40);
         smaller.come(25, 0, 25, 0);
         ways("smallest hedge of equal growth", smaller, 0, 0, 0, 0, 1, 1, 1);
 
-        CountedFrames first = inARow(0, 10, 20, 30, 50);
+        CountedFrames first = CountedFrames.row(0, 10, 20, 30, 50);
         first.come(25, 0, 25, 0);
         ways("first one of equal growth and hedge", first, 0, 0, 0, 0, 1, 1, 0);
 
@@ -148,7 +133,7 @@ public final class PromisesTest {
     }
 
     private static void comeSplitsFrames() {
-        CountedFrames alongX = inARow(40, 0, 30, 10, 20);
+        CountedFrames alongX = CountedFrames.row(40, 0, 30, 10, 20);
         ways("split along x", alongX, 0, 1, 0, 1, 0, 0);
         tells("split along x", alongX, 5, 1, 0, 0, 1, 2);
         counts("split along x", alongX, 5, 5, 3, 1, 41 + 21 + 11, 41, 0, 1, 2);
@@ -174,7 +159,7 @@ public final class PromisesTest {
         ways("equals keep their order", equalEdges, 0, 0, 0, 1, 0, 1);
         tells("equals keep their order", equalEdges, 5, 2, 0, 0, 1, 1);
 
-        CountedFrames behind = inARow(0, 10, 20, 80, 90, 5, 15);
+        CountedFrames behind = CountedFrames.row(0, 10, 20, 80, 90, 5, 15);
         ways("the new frame stands directly behind", behind, 0, 0, 0, 1, 2, 2, 0, 1);
         tells("the new frame stands directly behind", behind, 5, 0, 2, 1, 0, 1, 1, 0);
         counts("the new frame stands directly behind", behind, 7, 7, 4, 1, 91 + 11 + 6 + 11, 91, 0, 2, 3);
@@ -210,24 +195,24 @@ public final class PromisesTest {
 
     private static void goDropsFrames() {
         CountedFrames frames = threeLevels();
-        goAll(frames, 0, 2);
+        frames.goAll(0, 2);
         ways("an empty frame goes", frames, 1, -1, -1, -1, 0, 0, 0, 1, 1, 1, 0, 0, 0, 1, 1);
         counts("an empty frame goes", frames, 11, 14, 7, 2, 69 + 51 + 9 + 21 + 21 + 7 + 2, 69, 0, 5, 2);
-        goAll(frames, 9, 13);
+        frames.goAll(9, 13);
         counts("the only frame held holds all", frames, 6, 14, 3, 1, 51 + 21 + 21, 51, 0, 5, 2);
-        goAll(frames, 6, 8);
+        frames.goAll(6, 8);
         counts("down to one frame", frames, 3, 14, 1, 0, 21, 21, 0, 5, 3);
         ways("down to one frame", frames, 0, -1, -1, -1, -1, -1, -1);
 
         CountedFrames deep = threeLevels();
-        goAll(deep, 0, 5);
-        goAll(deep, 9, 11);
+        deep.goAll(0, 5);
+        deep.goAll(9, 11);
         counts("frames below may hold one", deep, 5, 14, 5, 2, 39 + 21 + 2 + 21 + 2, 39, 0, 5, 2);
-        goAll(deep, 12, 13);
+        deep.goAll(12, 13);
         counts("two levels go at once", deep, 3, 14, 1, 0, 21, 21, 0, 5, 3);
 
         CountedFrames one = threeLevels();
-        goAll(one, 1, 13);
+        one.goAll(1, 13);
         counts("one that is left alone", one, 1, 14, 1, 0, 1, 1, 0, 5, 1);
     }
 
@@ -296,7 +281,7 @@ public final class PromisesTest {
             Check.refuses("way(" + number + ", 0)", frames, INDEX, () -> frames.way(number, 0));
         }
         Check.unchanged("way", frames, f -> f.way(7, 1));
-        Check.equal("way without steps", inARow(3).way(0, 0), -1);
+        Check.equal("way without steps", CountedFrames.row(3).way(0, 0), -1);
     }
 
     private static void overlaps() {
@@ -328,7 +313,7 @@ public final class PromisesTest {
         Check.equal("between two allotments", frames.looks(35, 0, 36, 0), 3);
         Check.equal("at the edges of hedges", frames.looks(20, 0, 30, 0), 4);
         Check.equal("of both frames", frames.looks(80, 0, 90, 0), 5);
-        goAll(frames, 0, 2);
+        frames.goAll(0, 2);
         Check.equal("all frames that are left", frames.looks(0, 0, 99, 99), 7);
         Check.unchanged("looks", frames, f -> f.looks(0, 0, 99, 99));
     }
@@ -407,21 +392,21 @@ public final class PromisesTest {
         Check.equal("grows on all the way", deep.grows(99, 0, 99, 0), 3);
         Check.equal("grows below alone", deep.grows(25, 0, 25, 0), 5);
         Check.equal("grows in the middle too", deep.grows(88, 0, 88, 0), 4);
-        Check.equal("grows ahead of splitting", inARow(0, 10, 20, 30).grows(50, 0, 50, 0), 20);
+        Check.equal("grows ahead of splitting", CountedFrames.row(0, 10, 20, 30).grows(50, 0, 50, 0), 20);
         deep.go(13);
         Check.equal("grows after go", deep.grows(99, 0, 99, 0), 6);
-        goAll(frames, 0, 0);
+        frames.goAll(0, 0);
         Check.equal("grows after all went", frames.grows(12, 12, 12, 12), 1);
         Check.unchanged("grows", deep, f -> f.grows(0, 0, 99, 99));
     }
 
     private static void splits() {
         refusesWrongRectangles("splits", CountedFrames::splits);
-        CountedFrames frames = inARow(0, 10, 20);
+        CountedFrames frames = CountedFrames.row(0, 10, 20);
         Check.equal("splits of 3", frames.splits(0, 0, 0, 0), 0);
         frames.come(30, 0, 30, 0);
         Check.equal("splits of 4", frames.splits(0, 0, 0, 0), 1);
-        CountedFrames deep = inARow(0, 10, 20, 30, 40, 50, 60, 70, 80, 90, 95, 96, 97);
+        CountedFrames deep = CountedFrames.row(0, 10, 20, 30, 40, 50, 60, 70, 80, 90, 95, 96, 97);
         Check.equal("splits upwards", deep.splits(98, 0, 98, 0), 2);
         Check.equal("splits, where there is room", deep.splits(0, 0, 0, 0), 0);
         int before = deep.count(7);
@@ -462,33 +447,25 @@ public final class PromisesTest {
         Check.unchanged("mean", large, f -> f.mean());
     }
 
-    private static long folded(int... numbers) {
-        long d = 1303;
-        for (int x : numbers) {
-            d = d * 31 + x;
-        }
-        return d;
-    }
-
     private static void digest() {
         CountedFrames frames = new CountedFrames();
-        Check.equal("digest, new", frames.digest(), folded(0, 0, 1, 0, 0, 0, 0, 0, 0, 0, 0, 0, 0, 0));
+        Check.equal("digest, new", frames.digest(), Check.folded(0, 0, 1, 0, 0, 0, 0, 0, 0, 0, 0, 0, 0, 0));
         frames.come(3, 4, 5, 7);
         frames.come(3, 8, 3, 8);
         frames.go(0);
-        Check.equal("digest of one frame", frames.digest(), folded(
+        Check.equal("digest of one frame", frames.digest(), Check.folded(
             1, 2, 1, 0, 1, 1, 0, 0, 1,
             3, 4, 5, 7, 12, -1, -1, -1, 0,
             3, 8, 3, 8, 1, 0, 1, 1, 0,
             1, 3, 8, 3, 8, 1));
         frames.go(1);
-        Check.equal("digest, none held", frames.digest(), folded(
+        Check.equal("digest, none held", frames.digest(), Check.folded(
             0, 2, 1, 0, 0, 0, 0, 0, 0,
             3, 4, 5, 7, 12, -1, -1, -1, 0,
             3, 8, 3, 8, 1, -1, -1, -1, 0,
             0, 0, 0, 0, 0));
-        CountedFrames two = inARow(40, 0, 30, 10, 20);
-        Check.equal("digest of nested frames", two.digest(), folded(
+        CountedFrames two = CountedFrames.row(40, 0, 30, 10, 20);
+        Check.equal("digest of nested frames", two.digest(), Check.folded(
             5, 5, 3, 1, 73, 41, 0, 1, 2,
             40, 0, 40, 0, 1, 1, 2, 11, 0,
             0, 0, 0, 0, 1, 0, 3, 21, 0,

@@ -241,6 +241,13 @@ public final class TermsTest {
         int[][] sides = {{10, 50, 20, 60}, {50, 10, 60, 20}, {80, 50, 90, 60}, {50, 80, 60, 90}};
         Check.equal("all sides", CountedFrames.of(sides).count(5), 81 * 81);
         Check.equal("no more than these", CountedFrames.of(sides).grows(10, 10, 90, 90), 0);
+        // Whichever of them stands first, the hedge is the same.
+        for (int turn = 1; turn < 4; turn++) {
+            CountedFrames turned = CountedFrames.of(
+                sides[turn], sides[(turn + 1) % 4], sides[(turn + 2) % 4], sides[(turn + 3) % 4]);
+            Check.equal("all sides, turned", turned.count(5), 81 * 81);
+            Check.equal("no more than these, turned", turned.grows(10, 10, 90, 90), 0);
+        }
         int[] dueWithout = {41 * 81, 81 * 41, 51 * 81, 81 * 51};
         int[][] dueHedge = {{50, 10, 90, 90}, {10, 50, 90, 90}, {10, 10, 60, 90}, {10, 10, 90, 60}};
         for (int side = 0; side < 4; side++) {
