@@ -7,7 +7,7 @@ public final class NestedFrames {
     private static final int NONE = -1;
     private static final int LAST_QUESTION = 8;
     private static final long DIGEST_START = 1303;
-    // 60 allotments fill some six levels: a walk stops here only if the chain of frames were broken.
+    // 60 allotments fill five levels at most: a walk stops here only if the chain of frames were broken.
     private static final int DEEPEST = 40;
 
     private final Piece[] allotments;
@@ -371,11 +371,14 @@ public final class NestedFrames {
     }
 
     private void splitCrowdedAndTighten(Piece lowest) {
-        for (Piece frame = lowest; frame != null; frame = frame.holder) {
+        Piece frame = lowest;
+        // A counter, for a split makes objects and may make the chain longer by one.
+        for (int step = 0; step < DEEPEST && frame != null; step++) {
             if (frame.size > FULL) {
                 split(frame);
             }
             frame.tighten();
+            frame = frame.holder;
         }
     }
 

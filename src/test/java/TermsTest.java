@@ -67,6 +67,7 @@ public final class TermsTest {
     private static void splittingUpwards() {
         Check.sentence("it is looked whether the frame that holds these has 5", TermsTest::looksUpwards);
         Check.sentence("and so on upwards (splits)", TermsTest::splitsOnUpwards);
+        Check.sentence("and so on upwards (as far as 60 reach)", TermsTest::fourSplitsAtOnce);
         Check.sentence("x1, of a hedge likewise", TermsTest::axisOfHedges);
         Check.sentence("of equals among hedges in the order", TermsTest::equalHedgesStayInOrder);
     }
@@ -79,6 +80,7 @@ public final class TermsTest {
         Check.sentence("and so on upwards (goings)", TermsTest::emptyFramesGoUpwards);
         Check.sentence("the one that holds all holds just one frame", TermsTest::justOneFrame);
         Check.sentence("As long as it holds just one frame", TermsTest::asLongAsItHoldsOne);
+        Check.sentence("As long as it holds just one frame (as far as 60 reach)", TermsTest::fourStepsGoAtOnce);
         Check.sentence("just one frame, not one allotment", TermsTest::justOneAllotment);
     }
 
@@ -570,6 +572,47 @@ public final class TermsTest {
         Check.equal("two at once", middle.count(3) + " " + middle.count(7) + " " + middle.count(8), "2 9 3");
     }
 
+    /**
+     * The same one again and again: each comes down to the first frame, so that of the frames of each level the first
+     * one alone is ever split, and two more that come to it split it again. No other run goes deeper with 60.
+     */
+    private static CountedFrames sameAgain(int length) {
+        CountedFrames frames = new CountedFrames();
+        for (int k = 0; k < length; k++) {
+            frames.come(3, 4, 8, 9);
+        }
+        return frames;
+    }
+
+    private static void fourSplitsAtOnce() {
+        // 46: the frames of level 1 hold 4 and 21 times 2; of level 2: 4, 9 times 2; of level 3: 4, 3 times 2; then 4.
+        CountedFrames frames = sameAgain(46);
+        Check.equal("with 46", frames.counts(), equalHedges(46, 22 + 10 + 4 + 1, 3, 15 + 9 + 6, 21 + 9 + 3, 4));
+        Check.equal("splits of a 47th", frames.splits(3, 4, 8, 9), 4);
+        frames.come(3, 4, 8, 9);
+        Check.equal("with 47", frames.counts(),
+            equalHedges(47, 23 + 11 + 5 + 2 + 1, 4, 13 + 7 + 4 + 1, 22 + 10 + 4 + 1, 2));
+        // 60: the frames of level 1 hold 4 and 28 times 2; of level 2: 3, 13 times 2; of level 3: 4, 5 times 2;
+        // of level 4: 4 and 2; the one that holds all holds these 2.
+        CountedFrames full = sameAgain(60);
+        Check.equal("with 60", full.counts(),
+            equalHedges(60, 29 + 14 + 6 + 2 + 1, 4, 16 + 11 + 7 + 1, 28 + 13 + 5 + 1, 2));
+        Check.equal("all frames are looked at", full.looks(8, 9, 8, 9), 52);
+        for (int step = 0; step < 4; step++) {
+            Check.equal("the way to the first frame", full.way(0, step) + " " + full.way(59, step), "0 0");
+            Check.equal("the way to the one split off first", full.way(3, step) + " " + full.way(4, step), "1 1");
+        }
+        Check.equal("behind the last step", full.way(0, 4) + " " + full.way(3, 4), "-1 -1");
+        // By one more row in each frame on its way.
+        Check.equal("growth of five hedges", full.grows(3, 10, 8, 10), 5 * 6);
+    }
+
+    /** What count() answers if each hedge has the 36 squares of the same one, and none was given up. */
+    private static String equalHedges(int came, int frames, int steps, int pairs, int splits, int ofAll) {
+        return came + " " + came + " " + frames + " " + steps + " " + frames * 36 + " 36 " + pairs + " " + splits
+            + " " + ofAll;
+    }
+
     /** Five frames: at y = 0 those from x = 20, 40, 60 and 80 on, as the last one that from x = 0 on at this y. */
     private static CountedFrames fiveHedges(int y) {
         CountedFrames frames = CountedFrames.of(square(20, 0), square(21, 0), square(22, 0), square(0, y), square(1, y));
@@ -696,6 +739,20 @@ public final class TermsTest {
         CountedFrames half = CountedFrames.longRow(14, 5);
         half.goAll(0, 8);
         Check.equal("one step goes", half.counts(), "5 14 3 1 " + (21 + 11 + 6) + " 21 0 5 2");
+    }
+
+    private static void fourStepsGoAtOnce() {
+        CountedFrames frames = sameAgain(60);
+        frames.goAll(0, 2);
+        frames.goAll(5, 58);
+        // The first frame holds 59 alone, the last one 3 and 4, and each way to them goes by frames that hold one.
+        Check.equal("two ways are left", frames.counts(), "3 60 9 4 " + 9 * 36 + " 36 1 47 2");
+        Check.equal("the last step of both", frames.way(59, 3) + " " + frames.way(3, 3), "0 0");
+        frames.go(59);
+        Check.equal("one way is left", frames.counts(), "2 60 1 0 36 36 0 47 2");
+        Check.equal("the first step of it", frames.way(3, 0), -1);
+        frames.goAll(3, 4);
+        Check.equal("none is left", frames.counts(), "0 60 1 0 0 0 0 47 0");
     }
 
     private static void justOneAllotment() {
